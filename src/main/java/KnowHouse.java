@@ -300,7 +300,8 @@ public final class KnowHouse {
         if (many < 1 || many > MOST_MANY || what < -1 || what >= now.people) {
             return NO_PLAN;
         }
-        if (!planner.workOut(now, many)) {
+        teams.gather(now);
+        if (!planner.workOut(now, teams, many)) {
             return NO_PLAN;
         }
         return what == -1 ? planner.hours : planner.chosen[what];
@@ -901,6 +902,10 @@ public final class KnowHouse {
             }
         }
 
+        int sizeOf(int file) {
+            return Integer.bitCount(teams[file]);
+        }
+
         int lostWithout(int people) {
             int lost = 0;
             for (int f = 0; f < FILES; f++) {
@@ -972,9 +977,9 @@ public final class KnowHouse {
         private final int[] least = new int[(MOST_PEOPLE + 1) * SETS];
 
         /** Whether there is a PLAN; hours and chosen tell it then. */
-        boolean workOut(State now, int many) {
+        boolean workOut(State now, Teams teams, int many) {
             priceTasks(now);
-            if (!openSlots(now, many)) {
+            if (!openSlots(now, teams, many)) {
                 return false;
             }
             countLeast();
@@ -1004,10 +1009,10 @@ public final class KnowHouse {
         }
 
         /** Whether the slots are no more than the PEOPLE there can be. */
-        private boolean openSlots(State now, int many) {
+        private boolean openSlots(State now, Teams teams, int many) {
             int opened = 0;
             for (int f = 0; f < FILES; f++) {
-                int lacking = now.pages[f].size() == 0 ? 0 : Math.max(0, many - ableHere(now, now.pages[f]));
+                int lacking = now.pages[f].size() == 0 ? 0 : Math.max(0, many - teams.sizeOf(f));
                 if (opened + lacking > MOST_PEOPLE) {
                     return false;
                 }
@@ -1016,16 +1021,6 @@ public final class KnowHouse {
             }
             slots = (1 << opened) - 1;
             return true;
-        }
-
-        private static int ableHere(State now, Page page) {
-            int able = 0;
-            for (int p = 0; p < now.people; p++) {
-                if (now.isHere(p) && now.isAble(p, page)) {
-                    able++;
-                }
-            }
-            return able;
         }
 
         private void countLeast() {

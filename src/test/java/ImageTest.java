@@ -44,6 +44,7 @@ final class ImageTest {
         DUE.is("12: changeTold(1, 0)", x.changeTold(1, 0), -1);
         DUE.is("12: points(2, 0, 0)", x.points(2, 0, 0), -1);
         DUE.is("12: change(0, 1, 0, 0) of the TAPE", x.change(0, 1, 0, 0), 1);
+        DUE.is("12: line(1, 0, 0)", x.line(1, 0, 0), 300);
         DUE.is("12: line(1, 1, 0)", x.line(1, 1, 0), 310);
     }
 

@@ -13,6 +13,7 @@ final class KeptTest {
         movedKeepsMarks();
         allWays();
         longRows();
+        oneBehindAnother();
         DUE.end();
     }
 
@@ -193,5 +194,25 @@ final class KeptTest {
         }
         x.change(5, 0, 1, 0);
         DUE.is("8: KEPT by a MOVED one", x.changeTold(3, 5), 20);
+    }
+
+    /** What one CHANGE KEPT leaves nothing for the next one. */
+    private static void oneBehindAnother() {
+        KnowHouse x = Made.with(2, 1);
+        int[] twenty = new int[20];
+        java.util.Arrays.fill(twenty, 100);
+        Made.change(x, 0, 0, 0, 0, twenty);
+        Made.change(x, 0, 0, 0, 0, twenty);
+        DUE.is("8: KEPT of twenty of one TEXT", x.changeTold(1, 5), 20);
+        Made.change(x, 0, 1, 0, 0, 300, 400);
+        Made.change(x, 5, 1, 0, 0, 500, 400, 300);
+        DUE.is("8: KEPT in the small FILE", x.changeTold(3, 5), 2);
+        int[] makers = {3, 2, 2};
+        for (int i = 0; i < 3; i++) {
+            DUE.is("8: MAKER of " + i, x.line(1, i, 1), makers[i]);
+        }
+        Made.change(x, 0, 1, 0, 0, 300, 500, 400);
+        DUE.is("8: KEPT then", x.changeTold(4, 5), 2);
+        DUE.is("8: not the first one", x.line(1, 0, 1), 4);
     }
 }

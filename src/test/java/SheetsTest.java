@@ -127,6 +127,10 @@ final class SheetsTest {
         x.cell(0, 1, 9);
         DUE.refused(x, "30: no TEXT, of another sort", x.come(0, 1), 11);
         DUE.refused(x, "30: no TEXT, 9", x.come(0, 2), 3);
+        x.cell(0, 0, 9);
+        x.cell(0, 1, 200);
+        DUE.refused(x, "30: no TEXT, the first one", x.come(0, 2), 3);
+        x.cell(0, 0, 100);
         x.cell(0, 1, 10000);
         DUE.refused(x, "30: no TEXT, 10000", x.come(0, 2), 3);
         x.cell(0, 1, -100);
@@ -149,6 +153,8 @@ final class SheetsTest {
             DUE.refused(x, "31: forge(" + what + ", 1, 101)", x.forge(what, 1, 101), 1);
             DUE.refused(x, "31: forge(" + what + ", 1, -101)", x.forge(what, 1, -101), 1);
         }
+        DUE.done(x, "31: forge(5, 100, 100)", x.forge(5, 100, 100), 10);
+        DUE.done(x, "31: forge(5, -100, -100)", x.forge(5, -100, -100), -10);
     }
 
     /** CHANGES 0 to 5 of the KINDS 0 to 5. */

@@ -6,6 +6,7 @@ final class TeamsTest {
         lost();
         lone();
         loneOfFour();
+        loneOfOne();
         cover();
         coverOfMany();
         DUE.end();
@@ -78,6 +79,23 @@ final class TeamsTest {
         x.here(1, false);
         DUE.is("21: three of them", x.lone(0), 13);
         DUE.is("25: count(6) of three", x.count(6), 1);
+    }
+
+    private static void loneOfOne() {
+        KnowHouse x = Made.with(1, 1);
+        DUE.is("21: PERSON 0 alone", x.lone(0), 1);
+        DUE.is("25: count(6) of one", x.count(6), 1);
+        x.here(0, false);
+        DUE.is("25: count(6) of nobody", x.count(6), 0);
+        DUE.is("21: nobody", x.lone(0), -1);
+        x.person(1);
+        team(x, 0, 2);
+        DUE.is("21: PERSON 1 alone", x.lone(0), 2);
+        DUE.is("21: PERSON 1 alone, once", x.lone(1), -1);
+        x.here(0, true);
+        DUE.is("25: count(6) of two", x.count(6), 2);
+        DUE.is("21: PERSON 1 for FILE 0", x.lone(0), 2);
+        DUE.is("21: both for the others", x.lone(1), 3);
     }
 
     private static void cover() {
